@@ -76,36 +76,58 @@ public final class CompareTest {
     private String description() {
         StringBuilder t = new StringBuilder();
         int length = random.nextInt(4) == 0 ? between(200, 600) : 300;
-        t.append("whistle ").append(length).append(' ').append(between(5, 20)).append(' ').append(pick(5, 30, 40, 49, 49));
+        // Open, such a whistle's first hole is an octave above: tones that are played softly and strongly.
+        boolean octave = random.nextInt(8) == 0;
+        t.append("whistle ");
+        if (octave) t.append("300 12 40");
+        else t.append(length).append(' ').append(between(5, 20)).append(' ').append(pick(5, 30, 40, 49, 49));
         int holes = random.nextInt(12) == 0 ? 7 : between(0, 5);
         if (random.nextInt(25) == 0) holes = 8;
         List<String> statements = new ArrayList<>();
         int place = 0;
-        int style = random.nextInt(4);
+        int style = octave ? 4 : random.nextInt(5);
+        int silent = style == 4 ? between(1, 4) : 0;
+        holes = octave ? silent + 1 : Math.max(holes, silent);
+        if (octave) length = 300;
         for (int k = 0; k < holes; k++) {
-            if (style == 0) place = length - 9 + k;
+            if (style == 0 || k >= holes - silent) place = length - 9 + k;
             else if (style == 1) place += between(1, 2 * length / (holes + 1));
             else place = length / 3 + k * length * 2 / 3 / (holes + 1) + between(0, 8);
             if (random.nextInt(100) > 0) place = Math.min(place, length - 1);
-            statements.add("hole " + place + " " + (style == 0 ? between(2, 4) : between(2, 15)));
+            if (octave && k == 0) place = 138;
+            statements.add("hole " + place + " " + (octave && k == 0 ? 15 : style == 0 || k >= holes - silent ? between(2, 4) : between(2, 15)));
         }
+        if (silent > 0) statements.add("limit 2 3");
         if (random.nextInt(2) == 0) statements.add(between(0, statements.size()), "limit " + between(0, 2) + " " + between(0, 3));
         if (random.nextInt(2) == 0) statements.add(between(0, statements.size()), "cost " + between(1, 9) + " " + between(1, 9) + " " + between(0, 9));
-        if (random.nextInt(5) > 0) statements.add(between(0, statements.size()), "tune " + parts(0));
+        playable = playableTones(t + (statements.isEmpty() ? "" : ";") + String.join(";", statements));
+        if (random.nextInt(8) > 0) statements.add(between(0, statements.size()), "tune " + parts(0));
         if (random.nextInt(30) == 0) statements.add("tune 3");
         for (String s : statements) t.append(random.nextInt(9) == 0 ? " ; " : ";").append(s);
         return t.toString();
     }
 
+    private List<Integer> playable = List.of();
+
+    private static List<Integer> playableTones(String text) {
+        Model probe = new Model();
+        for (char c : text.toCharArray()) probe.append(c);
+        probe.load();
+        List<Integer> tones = new ArrayList<>();
+        for (int tone = 0; tone < 25; tone++) if (probe.plays(tone) > 0) tones.add(tone);
+        return tones;
+    }
+
     private String parts(int depth) {
         StringBuilder t = new StringBuilder();
         int count = between(1, depth == 0 ? 12 : 4);
-        int base = pick(0, 0, 2, 5, 12);
+        boolean close = random.nextBoolean();
         for (int k = 0; k < count; k++) {
             int way = random.nextInt(12);
             if (way == 0 && depth < 5) t.append('(').append(parts(depth + 1)).append(')').append(between(1, 4));
             else if (way == 1) t.append("rest");
-            else t.append(Math.min(24, base + random.nextInt(8)));
+            else if (way == 2 && random.nextInt(3) == 0 || playable.isEmpty()) t.append(between(0, 24));
+            else t.append(playable.get(random.nextInt(close ? Math.min(4, playable.size()) : playable.size())));
             t.append(' ');
         }
         return t.toString().trim();
@@ -171,7 +193,7 @@ public final class CompareTest {
     }
 
     private int likelyTone() {
-        if (random.nextInt(20) == 0) return pick(-2, 25);
+        if (random.nextInt(40) == 0) return pick(-2, 25);
         if (random.nextInt(9) == 0) return -1;
         int tone = random.nextInt(25);
         for (int k = 0; k < 25 && random.nextInt(12) > 0; k++) {
@@ -188,6 +210,7 @@ public final class CompareTest {
                 String text = description();
                 loadText(random.nextInt(3) == 0 ? broken(text) : text);
             }
+            if (random.nextInt(3) == 0) repair();
             String name = random.nextInt(3) == 0 ? CALM[random.nextInt(CALM.length)] : FACE[random.nextInt(FACE.length)].getName();
             if (name.equals("append") && random.nextInt(10) > 0) continue;
             if (name.equals("load") || name.equals("dropNote") && random.nextInt(2) == 0) continue;
@@ -195,6 +218,12 @@ public final class CompareTest {
             call(m, argumentsFor(m));
         }
         whole();
+    }
+
+    /** Tunes that cannot be played tell little. */
+    private void repair() throws Exception {
+        int note = model.firstLacking();
+        if (note >= 0) call(method("setNote"), note, likelyTone());
     }
 
     /** All that can be asked without an argument, and some more, as the end of a run. */

@@ -181,13 +181,17 @@ public final class Model {
 
     // ---- plays ----
 
-    private int fingerings() { return (int) Math.round(Math.pow(3, s.holes.size())); }
+    private static final String[] DIGITS = new String[2187];
 
-    private int how(int play, int hole) {
-        int f = play % fingerings();
-        for (int k = 0; k < hole; k++) f /= 3;
-        return f % 3;
+    static {
+        for (int f = 0; f < 2187; f++) {
+            DIGITS[f] = new StringBuilder(Integer.toString(2187 + f, 3)).reverse().substring(0, 7);
+        }
     }
+
+    private int fingerings() { return List.of(1, 3, 9, 27, 81, 243, 729, 2187).get(s.holes.size()); }
+
+    private int how(int play, int hole) { return DIGITS[play % fingerings()].charAt(hole) - '0'; }
 
     private boolean strong(int play) { return play >= fingerings(); }
 
