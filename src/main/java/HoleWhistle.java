@@ -230,6 +230,7 @@ public final class HoleWhistle {
     public int change(int one, int other) throws IndexOutOfBoundsException {
         needPlay(one);
         needPlay(other);
+        freshen(FRESH_PITCHES);
         return changeCost(one, other);
     }
 
@@ -265,11 +266,13 @@ public final class HoleWhistle {
     }
 
     public boolean isPlayable() {
-        return lackingFrom(0) == NONE;
+        freshen(FRESH_CHOICE);
+        return easy.lackingFrom(now, 0, 0) == NONE;
     }
 
     public int firstLacking() {
-        return lackingFrom(0);
+        freshen(FRESH_CHOICE);
+        return easy.lackingFrom(now, 0, 0);
     }
 
     public int cost() {
@@ -520,12 +523,14 @@ public final class HoleWhistle {
     public int cover(int hole, int how) throws IndexOutOfBoundsException, IllegalArgumentException {
         needHole(hole);
         needRange(how, 0, 2);
+        freshen(FRESH_PITCHES);
         remember(FRESH_WAY);
         turnTo(now.play + (how - coverOf(now.play, hole)) * at(POWERS, hole));
         return now.play;
     }
 
     public int blow(boolean strong) {
+        freshen(FRESH_PITCHES);
         remember(FRESH_WAY);
         int count = now.fingeringCount();
         int soft = now.play >= count ? now.play - count : now.play;
@@ -534,7 +539,8 @@ public final class HoleWhistle {
     }
 
     public int step() {
-        if (now.notes == 0 || lackingFrom(now.place) != NONE) {
+        freshen(FRESH_CHOICE);
+        if (now.notes == 0 || easy.lackingFrom(now, now.place, 0) != NONE) {
             return WRONG;
         }
         remember(FRESH_WAY);
@@ -701,18 +707,12 @@ public final class HoleWhistle {
     }
 
     private int changeCost(int one, int other) {
-        freshen(FRESH_PITCHES);
         return now.priceOf(fingerings.codeOf(one), fingerings.codeOf(other));
     }
 
     private void turnTo(int play) {
         now.spent += changeCost(now.play, play);
         now.play = play;
-    }
-
-    private int lackingFrom(int place) {
-        freshen(FRESH_CHOICE);
-        return easy.lackingFrom(now, place, 0);
     }
 
     private int otherCost(Choice choice, int by) {
@@ -837,7 +837,7 @@ public final class HoleWhistle {
         }
 
         private int playCount() {
-            return 2 * fingeringCount();
+            return 2 * at(POWERS, holes);
         }
 
         private boolean isRest(int note) {
@@ -1289,7 +1289,7 @@ public final class HoleWhistle {
         }
 
         private int sign() {
-            return pos < textLength ? at(text, pos) : NONE;
+            return pos >= 0 && pos < textLength && pos < text.length ? text[pos] : NONE;
         }
 
         private static boolean isDigit(int sign) {
@@ -1301,7 +1301,8 @@ public final class HoleWhistle {
         }
 
         private void skipSpaces() {
-            while (pos < textLength && sign() == ' ') {
+            int end = Math.min(textLength, text.length);
+            while (pos >= 0 && pos < end && text[pos] == ' ') {
                 pos++;
             }
         }
@@ -1444,35 +1445,30 @@ public final class HoleWhistle {
             hasTune = true;
             open = 0;
             boolean needsPart = true;
+            boolean good = true;
             // Each turn takes a byte at least.
-            for (int turn = 0; turn < MOST_BYTES; turn++) {
+            for (int turn = 0; turn < MOST_BYTES && good; turn++) {
                 skipSpaces();
                 int sign = sign();
-                boolean isPart = isDigit(sign) || isLetter(sign) || sign == '(';
-                if (!isPart && needsPart) {
+                if (isDigit(sign)) {
+                    good = readNumber(0, TONES - 1) && takeNote(number);
+                } else if (isLetter(sign)) {
+                    good = readRest();
+                } else if (sign == '(') {
+                    good = readOpening();
+                } else if (needsPart) {
                     return fail(1, pos);
-                }
-                if (!isPart && sign != ')') {
+                } else if (sign == ')') {
+                    good = readClosing();
+                } else {
                     return open == 0 || fail(1, pos);
-                }
-                if (!readPart(sign)) {
-                    return false;
                 }
                 needsPart = sign == '(';
             }
-            return fail(1, pos);
+            return good && fail(1, pos);
         }
 
-        private boolean readPart(int sign) {
-            if (sign == '(') {
-                return readOpening();
-            }
-            if (sign == ')') {
-                return readClosing();
-            }
-            if (isDigit(sign)) {
-                return readNumber(0, TONES - 1) && takeNote(number);
-            }
+        private boolean readRest() {
             readWord();
             return isWord("rest") ? takeNote(NONE) : fail(1, start);
         }

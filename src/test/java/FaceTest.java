@@ -10,6 +10,8 @@ import java.util.ArrayList;
 import java.util.Arrays;
 import java.util.Collections;
 import java.util.List;
+import java.util.Map;
+import java.util.TreeMap;
 import java.util.regex.Matcher;
 import java.util.regex.Pattern;
 
@@ -24,6 +26,7 @@ public final class FaceTest {
         words();
         indexes();
         lengths();
+        depths();
         room();
         Checks.end("FaceTest");
     }
@@ -101,7 +104,7 @@ public final class FaceTest {
     /** Arrays are indexed in the guarded functions and the constructor's loops alone, divided by what is written out. */
     private static void indexes() throws Exception {
         Checks.part("rule 7");
-        List<String> allowed = List.of("row[index]", "past[k]", "saved[k]");
+        List<String> allowed = List.of("row[index]", "past[k]", "saved[k]", "text[pos]");
         Matcher index = Pattern.compile("\\b\\w+\\[[^\\]]+\\]").matcher(code().replaceAll("new \\w+\\[[^\\]]+\\]", ""));
         while (index.find()) Checks.due(index.group() + " true", index.group() + " " + allowed.contains(index.group()));
         Matcher divide = Pattern.compile("[/%] *(\\w+)").matcher(code());
@@ -121,6 +124,44 @@ public final class FaceTest {
                 Checks.due(true, k - begun <= 60);
                 begun = -1;
             }
+        }
+    }
+
+    /** The bodies of all methods by their names, which no two of them share: so a name tells what is called. */
+    private static Map<String, String> bodies() throws Exception {
+        Map<String, String> bodies = new TreeMap<>();
+        Pattern head = Pattern.compile("( {4}| {8})(?:public|private) (?:static )?[\\w\\[\\]]+ (\\w+)\\(.*\\{");
+        String[] lines = code().split("\n");
+        for (int k = 0; k < lines.length; k++) {
+            Matcher m = head.matcher(lines[k]);
+            if (!m.matches()) continue;
+            StringBuilder body = new StringBuilder();
+            for (int j = k + 1; !lines[j].equals(m.group(1) + "}"); j++) body.append(lines[j]).append('\n');
+            Checks.due(m.group(2) + " null", m.group(2) + " " + bodies.put(m.group(2), body.toString()));
+        }
+        return bodies;
+    }
+
+    /** How deep the calls of a method go, itself with them; more than ahead is deeper than any way without recursion. */
+    private static int depth(String name, Map<String, String> bodies, Map<String, Integer> known, int ahead) {
+        if (known.containsKey(name)) return known.get(name);
+        if (ahead > bodies.size()) return ahead;
+        int deepest = 0;
+        Matcher call = Pattern.compile("\\b(\\w+)\\(").matcher(bodies.get(name));
+        while (call.find()) {
+            if (bodies.containsKey(call.group(1))) deepest = Math.max(deepest, depth(call.group(1), bodies, known, ahead + 1));
+        }
+        known.put(name, deepest + 1);
+        return deepest + 1;
+    }
+
+    private static void depths() throws Exception {
+        Checks.part("rule 11, calls at most eight deep");
+        Map<String, String> bodies = bodies();
+        Checks.due(true, bodies.size() > 100);
+        for (String name : bodies.keySet()) {
+            int depth = depth(name, bodies, new TreeMap<>(), 0);
+            Checks.due(name + " true", name + " " + (depth <= 8));
         }
     }
 
