@@ -210,6 +210,13 @@ public final class DescriptionEdgesTest {
         due("-108 2 0", read("whistle 3000 12 30"));
         due("-108 2 0", read("whistle 3009 12 30"));
         due("-100 1 0", read("Whistle 300 12 30"));
+        due("-100 1 0", read("xhistle 300 12 30"));
+        due("-118 1 1", read(W + ";xole 1 2"));
+        due("-118 1 1", read(W + ";gole 1 2"));
+        due("-118 1 1", read(W + ";limi 1 1"));
+        due("-118 1 1", read(W + ";cast 1 2 1"));
+        due("-118 1 1", read(W + ";tunf 1"));
+        due("-123 1 1", read(T + "xest"));
         due("-100 1 0", read("whistlE 300 12 30"));
         due("12", tune("12"));
         due("1 2", tune("1 2"));
