@@ -467,6 +467,20 @@ public final class DescriptionEdgesTest {
         due("300 12 30 0 1 1 1 2 1 0 0 2 0 0 0 0", Checks.sizes(x));
         due(-1, x.undo());
 
+        // Whatever error ended the text ahead: brackets, holes, notes and the tune that it told do not count.
+        HoleWhistle z = new HoleWhistle();
+        String[] ended = {T + "(((1", T + "((((1)1)1", T + FORTY + " 5", SEVEN + ";hole 8 2", T + "1;tune 1", T + "(1 2)9;",
+            W + ";limit 0 0;cost 9 9 9;hole 200 5;hole 100 5", "whistle 600 20 49;tune (rest)5 !"};
+        for (String text : ended) {
+            due(true, Checks.load(z, text) < 0);
+            due("2 3 4 3 4", Checks.load(z, T + "2 ((((3 4)1)1)1)2") < 0 ? "error" : Checks.tune(z));
+            due("300 12 30 0 1 1 1 2 1 5 0 2 0 0 0 0", Checks.sizes(z));
+            due(true, Checks.load(z, text) < 0);
+            due(-127, Checks.load(z, T + "(((((1"));
+            due(0, Checks.load(z, SEVEN));
+            due("1 2 300", z.hole(0, 0) + " " + z.hole(0, 1) + " " + z.size(0));
+        }
+
         Edges.says(3, "The output and the snapshots stay.");
         HoleWhistle y = Checks.whistle(W + ";hole 100 7;tune 0 12");
         y.writePlay(5);
