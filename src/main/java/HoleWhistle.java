@@ -1155,7 +1155,7 @@ public final class HoleWhistle {
                 put(field, at(choice.plays, choice.firstOf(nextTone) + j), at(aheads, at(rows, note + 1) + j));
             }
             for (int hole = 0; hole < state.holes; hole++) {
-                spreadHole(state, Math.max(1, at(POWERS, hole)), playCount);
+                spreadHole(state, hole, playCount);
             }
             spreadBreath(state.breath, state.fingeringCount());
             int count = choice.countOf(tone);
@@ -1164,7 +1164,8 @@ public final class HoleWhistle {
             }
         }
 
-        private void spreadHole(State state, int power, int playCount) {
+        private void spreadHole(State state, int hole, int playCount) {
+            int power = Math.max(1, at(POWERS, hole));
             for (int block = 0; block < playCount; block += 3 * power) {
                 for (int play = block; play < block + power; play++) {
                     int open = at(field, play);

@@ -17,7 +17,7 @@ final class Edges {
     private Edges() { }
 
     /** What stands ahead of promise 1, then the promises. */
-    private static String[] parts() {
+    static String[] parts() {
         try {
             return Files.readString(Path.of("../shared/DOC.md")).replaceAll("\\s+", " ").split("## Promise \\d+: ");
         } catch (IOException e) {
